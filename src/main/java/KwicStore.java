@@ -305,11 +305,13 @@ public final class KwicStore {
     }
 
     public int set(int k) {
-        return attemptByTape(SET, k);
+        askWithTape(SET, k);
+        return spendTape(attempt(asked, true));
     }
 
     public int put(int k) {
-        return attemptByTape(PUT, k);
+        askWithTape(PUT, k);
+        return spendTape(attempt(asked, true));
     }
 
     public int take(int k) {
@@ -605,12 +607,15 @@ public final class KwicStore {
         return script >= 0 && script < scriptCount;
     }
 
-    private int attemptByTape(int sort, int k) {
+    /** A TAPE with a FAULT is told as no SIGNS, so that the ACT is refused in its turn. */
+    private void askWithTape(int sort, int k) {
         asked.tell(sort, k, HIDDEN);
         if (tape.rowFault(asked.signs, LINE_SIGNS) != NONE) {
             asked.signs.size = 0;
         }
-        int answer = attempt(asked, true);
+    }
+
+    private int spendTape(int answer) {
         if (answer != NONE) {
             tape.size = 0;
         }
@@ -753,9 +758,9 @@ public final class KwicStore {
                 order = signs.compare(place - 1, other.signs, otherPlace - 1, -1);
             }
             if (order == 0) {
-                order = Integer.compare(number, other.number);
+                order = number - other.number;
             }
-            return order == 0 ? Integer.compare(place, otherPlace) : order;
+            return order == 0 ? place - otherPlace : order;
         }
     }
 
@@ -885,6 +890,8 @@ public final class KwicStore {
         int given;
         final Cursor[] cursors = new Cursor[CURSORS];
         final Journal journal = new Journal();
+        /** Only used while a PAGE is turned: its HITS, each as its LINE times LINE_SIGNS and its place. */
+        private final int[] spots = new int[MOST_SIZE];
 
         State() {
             for (int k = 0; k < lines.length; k++) {
@@ -1104,33 +1111,37 @@ public final class KwicStore {
         }
 
         private int turn(Cursor cursor) {
-            cursor.onPage = 0;
-            for (int i = 0; i < cursor.size; i++) {
-                if (!tellNext(cursor)) {
-                    break;
-                }
-            }
-            return cursor.onPage;
-        }
-
-        /** The least HIT behind the MARK is told and is the MARK then; false if there is none. */
-        private boolean tellNext(Cursor cursor) {
-            int bestLine = NONE;
-            int bestPlace = NONE;
+            int found = 0;
             for (int k = 0; k < count; k++) {
                 for (int place = 0; place < lines[k].signs.size; place++) {
-                    if (cursor.isAhead(lines[k], place) && (bestLine == NONE
-                            || lines[k].compare(place, lines[bestLine], bestPlace, cursor.word.size) < 0)) {
-                        bestLine = k;
-                        bestPlace = place;
+                    if (cursor.isAhead(lines[k], place)) {
+                        found = offer(cursor, found, k, place);
                     }
                 }
             }
-            if (bestLine == NONE) {
-                return false;
+            cursor.onPage = 0;
+            for (int i = 0; i < found; i++) {
+                cursor.tell(lines[spots[i] / LINE_SIGNS], spots[i] % LINE_SIGNS);
             }
-            cursor.tell(lines[bestLine], bestPlace);
-            return true;
+            return found;
+        }
+
+        /** Of the HITS that are offered the least ones stay, as many as the SIZE; answers how many there are. */
+        private int offer(Cursor cursor, int found, int line, int place) {
+            int at = found;
+            while (at > 0 && lines[line].compare(place, lines[spots[at - 1] / LINE_SIGNS],
+                    spots[at - 1] % LINE_SIGNS, cursor.word.size) < 0) {
+                at--;
+            }
+            if (at >= cursor.size || at >= spots.length) {
+                return found;
+            }
+            int moved = Math.min(found, cursor.size - 1);
+            for (int i = moved; i > at; i--) {
+                spots[i] = spots[i - 1];
+            }
+            spots[at] = line * LINE_SIGNS + place;
+            return moved + 1;
         }
 
         private int cut(int k, int place) {
@@ -1233,7 +1244,7 @@ public final class KwicStore {
             }
             int low = 0;
             int high = size;
-            for (int halving = 0; halving < Integer.SIZE && low < high; halving++) {
+            for (int halving = 0; halving < spots.length && low < high; halving++) {
                 int middle = (low + high) / 2;
                 Line compared = state.lines[lineOf(middle)];
                 if (compared.compare(placeOf(middle), state.lines[line], place, wordSize) < 0) {

@@ -306,6 +306,7 @@ final class ActsTest {
         CHECK.due("join(1): 20 SIGNS", x.join(1), 20);
         CHECK.due("LOG", Check.log(x, 0), 8, 2, 23);
         refused("join(0): 23 SIGNS", x, Check.statuses(x), x.join(0), 3);
+        CHECK.due("what stands behind both", Check.store("a;b;abcdefghijklmnopqrst").join(0), 2);
         CHECK.dueLines("join", x, "abc;dabcdefghijklmnopqrs");
         CHECK.due("join(0) of one LINE", Check.store("a").join(0), NONE);
     }

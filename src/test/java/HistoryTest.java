@@ -10,6 +10,8 @@ final class HistoryTest {
         undo();
         undoCursors();
         undoForty();
+        undoCursorsLaidAnew();
+        undoLog();
         log();
         run();
         runOfEachStep();
@@ -31,6 +33,14 @@ final class HistoryTest {
         KwicStore same = Check.store("ab;_");
         same.ways(40, 5L);
         CHECK.dueLines("the same seed", same, Check.lines(x));
+        KwicStore one = Check.store("ab;_");
+        int acts = 0;
+        for (long start = 0; start < 40; start++) {
+            CHECK.due("n 1", one.ways(1, start * 7919L), one.rule(1));
+            CHECK.due("one ACT at most", one.count(3) - acts <= 1, true);
+            acts = one.count(3);
+        }
+        CHECK.due("ACTS", acts > 10, true);
     }
 
     private static long seed;
@@ -156,6 +166,64 @@ final class HistoryTest {
         x.swap(0, 1);
         CHECK.due("one more", x.count(4), 1);
         CHECK.due("undo", x.undo(), 0);
+    }
+
+    private static void undoCursorsLaidAnew() {
+        KwicStore x = Check.store("xxa;yb");
+        Check.word(x, "x");
+        x.lay(0, 1);
+        x.page(0);
+        CHECK.due("told", Check.told(x, 0), 0, 1);
+        Check.word(x, "yb");
+        x.image();
+        x.lay(0, 2);
+        x.page(0);
+        CHECK.due("told", Check.told(x, 0), 1, 0);
+        x.undo();
+        x.undo();
+        CHECK.due("the WORD of the CURSOR", x.cursor(0, 1), 1);
+        CHECK.due("its SIZE", x.cursor(0, 0), 1);
+        CHECK.due("told", Check.told(x, 0), 0, 1);
+        CHECK.due("LEFT", x.cursor(0, 4), 1);
+        x.lay(0, 2);
+        x.page(0);
+        x.back();
+        CHECK.due("BACK: the WORD of the CURSOR", x.cursor(0, 1), 1);
+        CHECK.due("BACK: told", Check.told(x, 0), 0, 1);
+        CHECK.due("BACK: LEFT", x.cursor(0, 4), 1);
+        x.page(0);
+        CHECK.due("told", Check.told(x, 0), 0, 0);
+    }
+
+    /** What the LOG had is in it again, also what sixty later ones had pushed out. */
+    private static void undoLog() {
+        KwicStore x = Check.store("a;b;c");
+        for (int i = 0; i < 70; i++) {
+            Check.set(x, i % 3, "abcdefghijklmnopqrst".substring(0, 2 + i % 17));
+        }
+        x.image();
+        int[][] want = new int[60][];
+        for (int i = 0; i < 60; i++) {
+            want[i] = Check.log(x, i);
+        }
+        for (int i = 0; i < 40; i++) {
+            x.swap(i % 2, 2);
+        }
+        CHECK.due("the LOG", Check.log(x, 59), want[19]);
+        for (int i = 0; i < 40; i++) {
+            x.undo();
+        }
+        for (int i = 0; i < 60; i++) {
+            CHECK.due("UNDONE: the LOG " + i, Check.log(x, i), want[i]);
+        }
+        for (int i = 0; i < 75; i++) {
+            x.swap(i % 2, 2);
+        }
+        x.back();
+        for (int i = 0; i < 60; i++) {
+            CHECK.due("BACK: the LOG " + i, Check.log(x, i), want[i]);
+        }
+        CHECK.due("no more", x.log(60, 0), HIDDEN);
     }
 
     private static void log() {

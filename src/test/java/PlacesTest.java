@@ -22,6 +22,8 @@ final class PlacesTest {
         would();
         most();
         mostWithin();
+        afterEdits();
+        fullStore();
         CHECK.finish();
     }
 
@@ -346,5 +348,64 @@ final class PlacesTest {
         CHECK.due("like ones", Check.store("ab;x;ab").most(6), 5);
         CHECK.due("within", Check.store("abc;bc;ac;c;ab").most(6), 26);
         CHECK.due("one LINE", Check.store("aa").most(6), 0);
+        CHECK.due("the first is the longest", Check.store("abc;b").most(0), 0);
+        CHECK.due("the first is the shortest", Check.store("a;bcd;e").most(1), 0);
+        CHECK.due("the second is the shortest", Check.store("abc;b;cd").most(1), 1);
+        CHECK.due("unlike SIGNS of the first LINE", Check.store("abz;b").most(2), 3);
+        CHECK.due("unlike SIGNS without _", Check.store("z;z").most(2), 1);
+        CHECK.due("unlike SIGNS, all of them", Check.store("abcdefghijklm;nopqrstuvwxyz;_").most(2), 27);
+        KwicStore x = Check.store("a;b");
+        x.swap(0, 1);
+        CHECK.due("NUMBERS 1 0", x.most(4), 1);
+    }
+
+    /** The ORDER is asked for ahead of each change, so that an answer that is kept too long is seen. */
+    private static void afterEdits() {
+        KwicStore x = Check.store("ab;c");
+        Check.word(x, "b");
+        x.image();
+        CHECK.due("ALL", allPlaces(x), 0, 0, 0, 0, 1, 0, 1, 0, NONE);
+        CHECK.due("HITS", hits(x), 0, 1);
+        Check.set(x, 0, "ba");
+        CHECK.due("ALL, SET", allPlaces(x), 0, 1, 0, 0, 0, 0, 1, 0, NONE);
+        CHECK.due("HITS, SET", hits(x), 0, 0);
+        x.undo();
+        CHECK.due("ALL, UNDONE", allPlaces(x), 0, 0, 0, 0, 1, 0, 1, 0, NONE);
+        CHECK.due("HITS, UNDONE", hits(x), 0, 1);
+        x.swap(0, 1);
+        CHECK.due("ALL, CHANGED", allPlaces(x), 1, 0, 0, 1, 1, 0, 0, 0, NONE);
+        CHECK.due("HITS, CHANGED", hits(x), 1, 1);
+        x.back();
+        CHECK.due("ALL, BACK", allPlaces(x), 0, 0, 0, 0, 1, 0, 1, 0, NONE);
+        CHECK.due("HITS, BACK", hits(x), 0, 1);
+    }
+
+    private static void fullStore() {
+        String twenty = "aaaaaaaaaaaaaaaaaaaa";
+        KwicStore x = Check.store(String.join(";", java.util.Collections.nCopies(8, twenty)));
+        Check.put(x, 8, twenty);
+        Check.put(x, 9, twenty);
+        CHECK.due("all SIGNS", x.rule(1), 200);
+        CHECK.due("HITS", Check.word(x, "a"), 200);
+        CHECK.due("the first", x.hit(0, 1), 19);
+        CHECK.due("the last", x.rank(9, 0), 199);
+        CHECK.due("the last of ALL", x.all(199, 0), 9);
+        CHECK.due("no more", x.all(200, 0), NONE);
+        CHECK.due("twice(0)", x.twice(0), 190);
+        CHECK.due("twice(1)", x.twice(1), 20);
+        CHECK.due("unlike(6)", x.unlike(6), 1);
+        CHECK.due("frequent(6, 0)", x.frequent(6, 0), 150);
+        CHECK.due("frequent(6, 2)", x.frequent(6, 2), 14);
+        CHECK.due("few", x.few(0, 0), NONE);
+        CHECK.due("AFTER a", x.beside(true, 1), 190);
+        CHECK.due("lay", x.lay(0, 9), 200);
+        CHECK.due("page", x.page(0), 9);
+        CHECK.due("LEFT", x.cursor(0, 4), 191);
+        int[] most = {0, 0, 1, 20, 10, 1, 1023};
+        for (int what = 0; what < most.length; what++) {
+            CHECK.due("most(" + what + ")", x.most(what), most[what]);
+        }
+        Check.tape(x, "b");
+        CHECK.due("would", x.would(9), 180);
     }
 }

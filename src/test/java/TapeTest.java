@@ -120,6 +120,9 @@ final class TapeTest {
         fault(0, "a;b;c;d;e;f;g;h", NONE);
         fault(0, "a;b;c;d;e;f;g;h ;", 16);
         fault(0, "a;b;c;d;e;f;g;h;i", 15);
+        fault(0, "a" + " ".repeat(239), NONE);
+        fault(0, " ".repeat(240), 240);
+        fault(0, " ".repeat(239) + "a", NONE);
     }
 
     private static void scriptFaults() {
@@ -212,12 +215,18 @@ final class TapeTest {
         Check.put(x, 0, "c");
         x.take(9);
         x.image();
-        Check.script(x, "p0");
+        Check.script(x, "c0,1:a;p0");
+        CHECK.due("run", x.run(0, 0), NONE);
+        CHECK.due("ALL ahead", x.all(4, 0), 0);
         Check.tape(x, "a_a");
         CHECK.due("text(0) anew", x.text(0), 1);
+        CHECK.due("ALL anew", x.all(0, 1), 1);
+        CHECK.due("no fifth place", x.all(4, 0), NONE);
         CHECK.due("no WORD in hand", x.rule(3), 0);
         CHECK.due("no HITS", x.rule(2), 0);
+        CHECK.due("no HIT", x.hit(0, 0), NONE);
         CHECK.due("no CURSOR", x.most(5), 0);
+        CHECK.due("no PAGE is told", x.told(1, 0, 0), NONE);
         CHECK.due("no LOG", x.count(3), 0);
         CHECK.due("nothing to be UNDONE", x.undo(), NONE);
         CHECK.due("no IMAGE", x.back(), NONE);
@@ -240,9 +249,16 @@ final class TapeTest {
         CHECK.due("the fourth is as it was", x.step(3, 0, 1), 3);
         CHECK.due("no fifth", x.step(4, 0, 1), HIDDEN);
         KwicStore y = new KwicStore();
-        CHECK.due("a SCRIPT with a FAULT", Check.script(y, "d0;d"), NONE);
-        CHECK.due("the TAPE stays", y.count(2), 4);
+        CHECK.due("a SCRIPT with a FAULT", Check.script(y, "d0;d0;d"), NONE);
+        CHECK.due("the TAPE stays", y.count(2), 7);
         CHECK.due("SCRIPTS", y.count(1), 0);
+        CHECK.due("a shorter one in its stead", Check.script(y, "d0"), 0);
+        CHECK.due("one STEP", y.step(0, 1, 0), HIDDEN);
+        Check.tape(y, "a;b;c");
+        y.text(0);
+        CHECK.due("all can be", y.run(0, 0), NONE);
+        CHECK.due("one is TAKEN", y.run(0, 1), 2);
+        CHECK.due("one is done", y.perform(0), 1);
     }
 
     private static void steps() {
