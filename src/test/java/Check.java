@@ -2,12 +2,21 @@ import java.util.NoSuchElementException;
 
 /** Counts answers that are not as due; the tests share it. */
 final class Check {
-    private final String test;
+    private String test;
     private int looked;
     private int wrong;
 
     Check(String test) {
         this.test = test;
+    }
+
+    /** What comes from now on is told under this name. */
+    void begin(String name) {
+        test = name;
+    }
+
+    int looked() {
+        return looked;
     }
 
     void due(String call, long got, long want) {

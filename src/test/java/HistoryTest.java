@@ -12,6 +12,7 @@ final class HistoryTest {
         undoForty();
         undoCursorsLaidAnew();
         undoLog();
+        backLog();
         log();
         run();
         runOfEachStep();
@@ -195,17 +196,28 @@ final class HistoryTest {
         CHECK.due("told", Check.told(x, 0), 0, 0);
     }
 
+    /** Seventy-two ACTS of unlike numbers and SIGNS, by few calls. */
+    private static KwicStore withLongLog() {
+        KwicStore x = Check.store("a;b;c");
+        Check.script(x, "r0:aa;r1:abc;r2:abcd;r0:abcde;r1:ab;r2:abc;s0,2;s1,2;s0,2;r0:a;r1:b;r2:c");
+        for (int i = 0; i < 6; i++) {
+            CHECK.due("perform", x.perform(0), 12);
+        }
+        return x;
+    }
+
+    private static int[][] wholeLog(KwicStore x) {
+        int[][] log = new int[60][];
+        for (int i = 0; i < 60; i++) {
+            log[i] = Check.log(x, i);
+        }
+        return log;
+    }
+
     /** What the LOG had is in it again, also what sixty later ones had pushed out. */
     private static void undoLog() {
-        KwicStore x = Check.store("a;b;c");
-        for (int i = 0; i < 70; i++) {
-            Check.set(x, i % 3, "abcdefghijklmnopqrst".substring(0, 2 + i % 17));
-        }
-        x.image();
-        int[][] want = new int[60][];
-        for (int i = 0; i < 60; i++) {
-            want[i] = Check.log(x, i);
-        }
+        KwicStore x = withLongLog();
+        int[][] want = wholeLog(x);
         for (int i = 0; i < 40; i++) {
             x.swap(i % 2, 2);
         }
@@ -216,6 +228,12 @@ final class HistoryTest {
         for (int i = 0; i < 60; i++) {
             CHECK.due("UNDONE: the LOG " + i, Check.log(x, i), want[i]);
         }
+    }
+
+    private static void backLog() {
+        KwicStore x = withLongLog();
+        x.image();
+        int[][] want = wholeLog(x);
         for (int i = 0; i < 75; i++) {
             x.swap(i % 2, 2);
         }
