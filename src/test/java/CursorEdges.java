@@ -306,6 +306,22 @@ final class CursorEdges extends Edges {
         CHECK.due("no MARK", x.cursor(0, 5), 0);
     }
 
+    static void promise24_eachOfTheThree() {
+        KwicStore x = new KwicStore();
+        Check.tape(x, "ab;bcc;c");
+        x.text(0);
+        for (int cursor = 0; cursor <= 2; cursor++) {
+            Check.word(x, String.valueOf("abc".charAt(cursor)));
+            CHECK.due("lay", x.lay(cursor, 1), cursor + 1);
+            x.page(cursor);
+        }
+        for (int cursor = 0; cursor <= 2; cursor++) {
+            CHECK.due("LEFT", x.rewind(cursor), cursor + 1);
+            CHECK.due("no MARK", x.cursor(cursor, 5), 0);
+            CHECK.due("that one alone", x.count(3), 7 + cursor);
+        }
+    }
+
     static void promise24_fromTheFirstOnAgain() {
         KwicStore x = made(withHits(3));
         x.lay(0, 2);

@@ -418,8 +418,8 @@ final class HistoryEdges extends Edges {
         grow(x, 0, 58);
         CHECK.due("the first", Check.log(x, 59), 7, 0, 3);
         CHECK.due("the second", Check.log(x, 58), 8, 2, 3);
-        x.swap(0, 1);
-        x.swap(0, 1);
+        x.swap(1, 0);
+        x.swap(1, 0);
         CHECK.due("both are pushed out", Check.log(x, 59), 0, 0, 3);
         x.undo();
         x.undo();

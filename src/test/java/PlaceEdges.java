@@ -474,7 +474,10 @@ final class PlaceEdges extends Edges {
                 asks("frequent(" + n + ", " + w + ")", Edges::rich, x -> x.frequent(n, w), NONE);
             }
         }
-        frequent(Check.store("abcdefg"), 6, 1, 0, 0);
+        KwicStore x = Check.store("abcdefg;abcdefg");
+        frequent(x, 6, 2, 0, 0);
+        frequent(x, 7, NONE, NONE, NONE);
+        frequent(x, 0, NONE, NONE, NONE);
     }
 
     static void promise15_noStore() {
