@@ -836,7 +836,8 @@ public final class KwicStore {
             sorts[slot] = sort;
             numbers[slot] = number;
             signs[slot] = allSigns;
-            written++;
+            // Kept low, so that however many come it never goes round to a slot below 0.
+            written = written + 1 == 2 * LOGGED ? LOGGED : written + 1;
         }
 
         int entry(int i, int what) {
@@ -1442,7 +1443,7 @@ public final class KwicStore {
         /** False if there is no SIGN; what comes behind the most there may be is left to the caller. */
         private boolean readSigns(Signs target, int most) {
             target.size = 0;
-            while (target.size < most && isSign(peek())) {
+            for (int i = 0; i < most && isSign(peek()); i++) {
                 target.add(peek());
                 at++;
             }

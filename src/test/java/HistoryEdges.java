@@ -526,6 +526,30 @@ final class HistoryEdges extends Edges {
         }
     }
 
+    /** Up to three times as many as it keeps: the k-th ACT sets the only LINE to k modulo 11, plus 1, SIGNS. */
+    static void promise32_howeverManyCame() {
+        StringBuilder eleven = new StringBuilder();
+        for (int size = 1; size <= 11; size++) {
+            eleven.append(size == 1 ? "" : ";").append("r0:").append("a".repeat(size));
+        }
+        for (int acts = 0; acts <= 185; acts++) {
+            KwicStore x = Check.store("z");
+            Check.script(x, eleven.toString());
+            for (int i = 0; i < acts / 11; i++) {
+                x.perform(0);
+            }
+            for (int size = 1; size <= acts % 11; size++) {
+                Check.set(x, 0, "a".repeat(size));
+            }
+            int kept = Math.min(60, acts);
+            CHECK.due("the LOG of " + acts + " ACTS", x.count(3), kept);
+            for (int i = 0; i < kept; i++) {
+                CHECK.due("LOG " + i + " of " + acts, x.log(i, 2), (acts - 1 - i) % 11 + 1);
+            }
+            CHECK.due("LOG " + kept + " of " + acts, x.log(kept, 2), HIDDEN);
+        }
+    }
+
     // Promise 36: run
 
     /** STEPS of which the last can't be, or all can be: what RUN and DO answer. */
